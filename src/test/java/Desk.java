@@ -1,0 +1,93 @@
+import java.util.NoSuchElementException;
+
+/** What the tests share: texts on the tape, and answers looked at. A test's main ends with Desk.close(). */
+final class Desk {
+    private static int looked = 0;
+    private static int wrong = 0;
+
+    private Desk() {
+    }
+
+    interface Call {
+        long answer();
+    }
+
+    static void due(String what, long got, long want) {
+        looked++;
+        if (got != want) {
+            wrong++;
+            System.out.println(what + " answered " + got + ", due is " + want);
+        }
+    }
+
+    static void yes(String what, boolean got) {
+        due(what, got ? 1 : 0, 1);
+    }
+
+    static void no(String what, boolean got) {
+        due(what, got ? 1 : 0, 0);
+    }
+
+    static void none(String what, Call call) {
+        looked++;
+        try {
+            long got = call.answer();
+            wrong++;
+            System.out.println(what + " answered " + got + ", due is NoSuchElementException");
+        } catch (NoSuchElementException e) {
+            if (e.getClass() != NoSuchElementException.class) {
+                wrong++;
+                System.out.println(what + " threw " + e);
+            }
+        }
+    }
+
+    static void bytes(FaceCoins x, byte[] text) {
+        for (int i = 0; i < text.length; i += 20) {
+            x.feed(four(text, i), four(text, i + 4), four(text, i + 8), four(text, i + 12), four(text, i + 16));
+        }
+        x.end(text.length);
+    }
+
+    private static int four(byte[] text, int from) {
+        int n = 0;
+        for (int i = from; i < from + 4; i++) n = n << 8 | (i < text.length ? text[i] & 255 : 0);
+        return n;
+    }
+
+    static void text(FaceCoins x, String text) {
+        bytes(x, text.getBytes(java.nio.charset.StandardCharsets.ISO_8859_1));
+    }
+
+    static void coins(FaceCoins x, int... numbers) {
+        byte[] text = new byte[numbers.length];
+        for (int i = 0; i < numbers.length; i++) text[i] = (byte) numbers[i];
+        bytes(x, text);
+    }
+
+    /** A new object with a LAW, which must be without a FAULT. */
+    static FaceCoins under(String law) {
+        FaceCoins x = new FaceCoins();
+        text(x, law);
+        int lines = x.law();
+        if (lines < 0) due("law of '" + law + "'", lines, 0);
+        return x;
+    }
+
+    static void lawFault(FaceCoins x, String law, int place, int kind) {
+        text(x, law);
+        due("law of '" + law + "'", x.law(), -1 - place);
+        due("fault of '" + law + "'", x.fault(), kind);
+    }
+
+    static void sentenceFault(FaceCoins x, String sentence, int place, int kind) {
+        text(x, sentence);
+        due("sentence of '" + sentence + "'", x.sentence(), -1 - place);
+        due("fault of '" + sentence + "'", x.fault(), kind);
+    }
+
+    static void close() {
+        System.out.println(looked + " answers looked at, " + wrong + " not as due");
+        if (wrong != 0) System.exit(1);
+    }
+}
