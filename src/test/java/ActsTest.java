@@ -90,6 +90,11 @@ public final class ActsTest {
         Desk.due("undo", x.undo(), 5);
         Desk.due("stolen again", x.count(9), 1);
         Desk.due("day 30 again", x.count(8), 30);
+        FaceCoins y = new FaceCoins();
+        for (int d = 0; d < 9998; d++) y.day();
+        Desk.due("day 9999", y.day(), 9999);
+        Desk.due("no day 10000", y.day(), -1);
+        Desk.due("it stays", y.count(8), 9999);
     }
 
     private static void robbing() {

@@ -132,6 +132,21 @@ public final class ImagesTest {
         Desk.due("another stroke 3", y.stroke(3, 5), 0);
         y.restore(0);
         isFull(y);
+        FaceCoins z = full();
+        z.image(0);
+        Desk.text(z, "who q;who r;mint p 1 1;thin 1;");
+        z.law();
+        z.coin(0, 70, 0);
+        Desk.coins(z, 0);
+        Desk.due("another sale 0", z.sale(0, 1, 0, 33), 0);
+        Desk.due("its price", z.sold(0, 3), 33);
+        Desk.due("another depth", z.face(0, 1, 1), 8);
+        z.image(1);
+        z.restore(0);
+        isFull(z);
+        z.restore(1);
+        Desk.due("its price", z.sold(0, 3), 33);
+        Desk.due("its depth", z.face(0, 1, 1), 8);
     }
 
     private static void throughLaws() {

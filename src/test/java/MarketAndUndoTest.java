@@ -9,6 +9,7 @@ public final class MarketAndUndoTest {
         marketsAreOneAct();
         sixAreKept();
         eachAct();
+        ghostsComeBack();
         notDoneIsNoAct();
         Desk.close();
     }
@@ -143,6 +144,24 @@ public final class MarketAndUndoTest {
         }
         b.append(x.strokes()).append(' ').append(x.sales()).append(' ').append(x.silver(0));
         return b.toString();
+    }
+
+    private static void ghostsComeBack() {
+        FaceCoins x = Desk.under("who a;who b;mint m 2 4;mint n 5 9;thin 20;");
+        x.coin(0, 100, 0);
+        for (int i = 0; i < 3; i++) {
+            Desk.coins(x, 0);
+            Desk.due("sale", x.sale(i % 2, 1 - i % 2, i / 2, 5), 0);
+        }
+        Desk.due("one face", x.of(0, 2), 1);
+        x.undo();
+        Desk.due("three faces", x.of(0, 2), 3);
+        Desk.due("depth 1", x.face(0, 2, 1), 1);
+        Desk.due("depth 5", x.face(0, 1, 1), 5);
+        x.undo();
+        Desk.due("two faces", x.of(0, 2), 2);
+        Desk.due("depth 5 again", x.face(0, 1, 1), 5);
+        Desk.due("of stroke 0", x.face(0, 1, 2), 0);
     }
 
     private static void notDoneIsNoAct() {

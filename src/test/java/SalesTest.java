@@ -19,6 +19,8 @@ public final class SalesTest {
         firstTwelve();
         buying();
         buyingByValuesAsReckoned();
+        strikingAtTheFirstMint();
+        allForty();
         paidStays();
         Desk.close();
     }
@@ -318,6 +320,34 @@ public final class SalesTest {
         Desk.due("99 at 110 is 108, twice", x.payment(0, 1, 0, 217), -1);
         Desk.due("216", x.buy(0, 1, 0, 216), 200);
         Desk.due("values", x.sold(0, 6), 216);
+    }
+
+    private static void strikingAtTheFirstMint() {
+        FaceCoins x = Desk.under("who a;who b;who c owes;mint m 9 4;mint n 4 4;thin 10;");
+        x.coin(2, 104, 1);
+        x.rob(0, 0);
+        Desk.due("buy", x.buy(0, 1, 1, 91), 100);
+        Desk.due("at m", x.paid(0), 2);
+        Desk.due("strokes", x.strokes(), 3);
+        Desk.due("his", x.stroke(1, 1), 0);
+        Desk.due("at m", x.stroke(1, 2), 0);
+        Desk.due("values", x.sold(0, 6), 91);
+        Desk.due("grains", x.of(0, 0), 87);
+    }
+
+    private static void allForty() {
+        FaceCoins x = Desk.under("who a;who b;mint m 1 1;thin 10;");
+        int[] all = new int[40];
+        for (int c = 0; c < 40; c++) {
+            x.coin(0, 51, 0);
+            all[c] = 39 - c;
+        }
+        Desk.due("all at once", sale(x, 0, 1, 0, 2000, all), 0);
+        Desk.due("how many", x.sold(0, 5), 40);
+        Desk.due("the first stroke", x.stroke(40, 0), 39);
+        Desk.due("all his", x.who(1, 3), 40);
+        int[] more = java.util.Arrays.copyOf(all, 41);
+        Desk.due("one of them twice", sale(x, 1, 0, 0, 1, more), -1);
     }
 
     private static void paidStays() {

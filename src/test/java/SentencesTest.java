@@ -7,6 +7,7 @@ public final class SentencesTest {
         howMany();
         longTexts();
         saying();
+        layersAndStrokes();
         joining();
         stays();
         Desk.close();
@@ -56,6 +57,7 @@ public final class SentencesTest {
         Desk.sentenceFault(x, "not (not (not (not ;", 19, 1);
         Desk.sentenceFault(x, "((((((((;", 8, 1);
         ones(x, "false" + " or false".repeat(19), 20);
+        ones(x, "false" + " and false".repeat(19), 20);
         Desk.sentenceFault(x, "false" + " or false".repeat(20), 5 + 9 * 19 + 4, 4);
         Desk.sentenceFault(x, "false" + " or false".repeat(19) + " or ;", 5 + 9 * 19 + 4, 1);
         Desk.sentenceFault(x, "false" + " or false".repeat(19) + " or", 5 + 9 * 19 + 3, 1);
@@ -133,6 +135,19 @@ public final class SentencesTest {
         said(x, "struck<2", 0, 3);
         said(x, "struck>9999");
         said(x, "struck>0000", 0, 1, 2, 3);
+    }
+
+    private static void layersAndStrokes() {
+        FaceCoins x = Desk.under(LAW);
+        x.coin(0, 100, 0);
+        x.coin(0, 100, 0);
+        Desk.coins(x, 1);
+        Desk.due("sale", x.sale(0, 1, 1, 5), 0);
+        said(x, "layers=1", 0, 1);
+        said(x, "layers=2");
+        said(x, "struck=1", 0);
+        said(x, "struck=2", 1);
+        said(x, "shows ann", 0);
     }
 
     private static void joining() {

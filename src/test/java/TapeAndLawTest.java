@@ -79,6 +79,8 @@ public final class TapeAndLawTest {
         FaceCoins empty = Desk.under("");
         Desk.text(empty, " \n ");
         Desk.due("blanks alone", empty.law(), 0);
+        FaceCoins alike = Desk.under("who a;who aa;who ab;who b;who ba;who abcdef;who bcdef;mint aaa 1 1;takes ab b 5;");
+        Desk.due("names that are nearly alike", alike.count(0), 7);
         FaceCoins tight = new FaceCoins();
         Desk.text(tight, "who a;who b;takes a b 5;lucky 1;");
         Desk.due("lines", tight.law(), 4);
@@ -86,6 +88,7 @@ public final class TapeAndLawTest {
 
     private static void faultsOfTokens() {
         FaceCoins x = new FaceCoins();
+        Desk.lawFault(new FaceCoins(), "toolong", 0, 1);
         Desk.lawFault(x, "who a", 5, 1);
         Desk.lawFault(x, "who a  ", 7, 1);
         Desk.lawFault(x, "who", 3, 1);
@@ -193,6 +196,7 @@ public final class TapeAndLawTest {
         Desk.lawFault(x, " ".repeat(694) + "lucky 101;", 700, 1);
         Desk.lawFault(x, " ".repeat(694) + "lucky", 699, 1);
         Desk.lawFault(x, "who a;who a;" + " ".repeat(720), 10, 3);
+        Desk.lawFault(new FaceCoins(), " ".repeat(701), 700, 1);
     }
 
     private static void lawStaysAtFault() {
@@ -213,7 +217,8 @@ public final class TapeAndLawTest {
 
     private static void newLawForgets() {
         String law = "who a;who b;who c;mint m 2 3;thin 20;";
-        FaceCoins x = Desk.under(law);
+        FaceCoins x = Desk.under(law + "takes a b 99;lucky 3;dead 4;faces 7;");
+        x.coin(0, 100, 0);
         x.coin(0, 100, 0);
         Desk.coins(x, 0);
         Desk.due("sale", x.sale(0, 1, 0, 5), 0);
@@ -235,7 +240,20 @@ public final class TapeAndLawTest {
         Desk.due("dead", x.who(2, 2), 0);
         Desk.due("closed", x.mint(0, 2), 0);
         Desk.due("strokes at the mint", x.mint(0, 3), 0);
-        Desk.due("silver", x.silver(0), 0);
+        Desk.due("silver made", x.silver(0), 0);
+        Desk.due("silver now", x.silver(1), 0);
+        Desk.due("coins that he has", x.who(0, 3), 0);
+        Desk.due("grains of these", x.who(0, 4), 0);
+        Desk.due("his face on top", x.who(1, 5), 0);
+        Desk.due("takes", x.count(2), 0);
+        Desk.due("lucky", x.count(3), 0);
+        Desk.due("dead", x.count(4), 50);
+        Desk.due("faces", x.count(6), 5);
         Desk.due("undo", x.undo(), -1);
+        Desk.due("a first coin", x.coin(1, 60, 0), 0);
+        Desk.due("its strokes", x.of(0, 3), 1);
+        Desk.due("its faces", x.of(0, 2), 1);
+        Desk.due("silver now", x.silver(1), 58);
+        Desk.due("taken at", x.value(0, 0, 0), 100);
     }
 }
