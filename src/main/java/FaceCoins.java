@@ -553,7 +553,8 @@ public final class FaceCoins {
             } else if (next >= length) {
                 kind = END;
             } else if (isLetter(at(next)) || isDigit(at(next))) {
-                readRun();
+                kind = readRun();
+                if (kind == NAME) kind = wordKind(next - place);
             } else {
                 kind = signKind(at(next));
                 next++;
@@ -584,29 +585,31 @@ public final class FaceCoins {
             }
         }
 
-        private void readRun() {
+        private int readRun() {
             int letters = 0;
             int digits = 0;
             number = 0;
             code = 0;
-            int sign = at(next);
-            while (next < length && (isLetter(sign) || isDigit(sign))) {
+            boolean more = true;
+            while (more && next < length && next < TAPE_BYTES) {
+                int sign = bytes[next];
                 if (isDigit(sign)) {
                     number = number * 10 + sign - '0';
                     digits++;
-                } else {
+                } else if (isLetter(sign)) {
                     // Six letters of five bits fit an int, so a NAME is kept as one number.
                     code = code * 32 + sign - 'a' + 1;
                     letters++;
+                } else {
+                    more = false;
                 }
-                next++;
-                sign = at(next);
+                if (more) next++;
             }
-            if (letters == 0 && digits <= DIGITS) kind = NUMBER;
-            else if (digits == 0 && letters <= LETTERS) kind = wordKind(letters);
-            else kind = NO_TOKEN;
+            if (letters == 0 && digits <= DIGITS) return NUMBER;
+            return digits == 0 && letters <= LETTERS ? NAME : NO_TOKEN;
         }
 
+        /** The kind of a told WORD that is like the one just read; NAME for another one. */
         private int wordKind(int letters) {
             int word = WHO;
             int like = 0;
