@@ -4,6 +4,7 @@ import java.util.NoSuchElementException;
 final class Desk {
     private static int looked = 0;
     private static int wrong = 0;
+    private static String edge = "";
 
     private Desk() {
     }
@@ -12,12 +13,19 @@ final class Desk {
         long answer();
     }
 
+    /** The sentence of the document that is looked at from here on: it is told ahead of what is not as due. */
+    static void edge(String sentence) {
+        edge = "[" + sentence + "] ";
+    }
+
+    private static void fail(String what) {
+        wrong++;
+        System.out.println(edge + what);
+    }
+
     static void due(String what, long got, long want) {
         looked++;
-        if (got != want) {
-            wrong++;
-            System.out.println(what + " answered " + got + ", due is " + want);
-        }
+        if (got != want) fail(what + " answered " + got + ", due is " + want);
     }
 
     static void yes(String what, boolean got) {
@@ -32,13 +40,9 @@ final class Desk {
         looked++;
         try {
             long got = call.answer();
-            wrong++;
-            System.out.println(what + " answered " + got + ", due is NoSuchElementException");
+            fail(what + " answered " + got + ", due is NoSuchElementException");
         } catch (NoSuchElementException e) {
-            if (e.getClass() != NoSuchElementException.class) {
-                wrong++;
-                System.out.println(what + " threw " + e);
-            }
+            if (e.getClass() != NoSuchElementException.class) fail(what + " threw " + e);
         }
     }
 
@@ -74,6 +78,18 @@ final class Desk {
         return x;
     }
 
+    /** A LAW without a FAULT, of so many LINES, on a new object. */
+    static void lines(String law, int lines) {
+        FaceCoins x = new FaceCoins();
+        text(x, law);
+        due("law of '" + law + "'", x.law(), lines);
+        due("fault of '" + law + "'", x.fault(), 0);
+    }
+
+    static void lawFault(String law, int place, int kind) {
+        lawFault(new FaceCoins(), law, place, kind);
+    }
+
     static void lawFault(FaceCoins x, String law, int place, int kind) {
         text(x, law);
         due("law of '" + law + "'", x.law(), -1 - place);
@@ -84,6 +100,12 @@ final class Desk {
         text(x, sentence);
         due("sentence of '" + sentence + "'", x.sentence(), -1 - place);
         due("fault of '" + sentence + "'", x.fault(), kind);
+    }
+
+    /** A SALE of such COINS, put on an empty tape. */
+    static int sale(FaceCoins x, int buyer, int seller, int m, int price, int... coins) {
+        coins(x, coins);
+        return x.sale(buyer, seller, m, price);
     }
 
     static void close() {
