@@ -21,6 +21,7 @@ public final class EdgesOfActsTest {
         closing();
         closedMints();
         strokesDone();
+        mostStrokes();
         strokeOnes();
         stillShown();
         foreignCoins();
@@ -263,6 +264,22 @@ public final class EdgesOfActsTest {
         x.undo();
         Desk.due("three", x.strokes(), 3);
         Desk.due("at n", x.mint(1, 3), 0);
+    }
+
+    private static void mostStrokes() {
+        Desk.edge("STROKES are numbered as they are done (500 at most, 40 COINS) - 360 can be: nine of each COIN");
+        FaceCoins x = Desk.under("who a;who b;mint m 1 1;mint n 1 1;faces 9;");
+        for (int c = 0; c < 40; c++) x.coin(1, 100, 0);
+        x.steal(1, 0);
+        for (int c = 39; c >= 0; c--) for (int i = 0; i < 8; i++) x.forge(c, 1);
+        Desk.due("STROKES", x.strokes(), 360);
+        Desk.due("no more", x.forge(0, 1), 6);
+        int[][] told = {{0, 0, 1, 0, 0, -1, 0, 1}, {39, 39, 1, 0, 0, -1, 0, 1}, {40, 39, 0, 1, 0, -1, 1, 1},
+            {351, 1, 0, 1, 0, -1, 1, 1}, {352, 0, 0, 1, 0, -1, 1, 1}, {359, 0, 0, 1, 0, -1, 1, 1}};
+        for (int[] k : told) for (int i = 0; i < 7; i++) Desk.due("STROKE " + k[0] + " " + i, x.stroke(k[0], i), k[1 + i]);
+        for (int i = 0; i < 9; i++) Desk.due("its number", x.face(0, i, 2), i == 8 ? 0 : 359 - i);
+        Desk.due("at m", x.mint(0, 3), 40);
+        Desk.due("at n", x.mint(1, 3), 320);
     }
 
     private static void strokeOnes() {

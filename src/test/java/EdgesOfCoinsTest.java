@@ -5,6 +5,7 @@ public final class EdgesOfCoinsTest {
 
     public static void main(String[] args) {
         whoAndMint();
+        whatHeHas();
         coinGrains();
         coinStroke();
         coinNotAsTold();
@@ -43,6 +44,23 @@ public final class EdgesOfCoinsTest {
         for (int what : new int[] {-1, 6, LEAST, MOST}) Desk.none("who(0, " + what + ")", () -> x.who(0, what));
         for (int m : new int[] {-1, 1, 4, LEAST, MOST}) Desk.none("mint(" + m + ", 0)", () -> x.mint(m, 0));
         for (int what : new int[] {-1, 4, LEAST, MOST}) Desk.none("mint(0, " + what + ")", () -> x.mint(0, what));
+    }
+
+    private static void whatHeHas() {
+        Desk.edge("3 COINS that he has, 4 GRAINS of these, 5 COINS with his FACE on top");
+        FaceCoins x = Desk.under("who a;who b;who c;mint m 1 1;");
+        int[] made = {101, 102, 104, 108, 116};
+        for (int c = 0; c < made.length; c++) x.coin(c % 2, made[c], 0);
+        x.rob(1, 0);
+        x.rob(1, 4);
+        int[][] told = {{1, 103, 3}, {4, 100 + 101 + 107 + 115, 2}, {0, 0, 0}};
+        for (int w = 0; w < 3; w++) for (int i = 0; i < 3; i++) Desk.due("who(" + w + ", " + (3 + i) + ")", x.who(w, 3 + i), told[w][i]);
+        FaceCoins y = Desk.under("who a;mint m 1 1;");
+        for (int c = 0; c < 40; c++) y.coin(0, 9999, 0);
+        Desk.due("all COINS", y.who(0, 3), 40);
+        Desk.due("all GRAINS", y.who(0, 4), 40 * 9998);
+        Desk.due("all with his FACE", y.who(0, 5), 40);
+        Desk.due("STROKES at the MINT", y.mint(0, 3), 40);
     }
 
     private static void coinGrains() {

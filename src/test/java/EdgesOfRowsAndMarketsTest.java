@@ -27,6 +27,8 @@ public final class EdgesOfRowsAndMarketsTest {
         undoNone();
         sixAtMost();
         undoneAsFarAsDone();
+        facesComeBack();
+        undoneCoins();
         noActs();
         Desk.close();
     }
@@ -182,6 +184,18 @@ public final class EdgesOfRowsAndMarketsTest {
         int[][] told = {{3, 3}, {2, 3}, {1, 2}};
         for (int i = 0; i < 3; i++) for (int j = 0; j < 2; j++) Desk.due("could " + i + " " + j, x.could(i, j), told[i][j]);
         Desk.due("two alone", x.rows(0, 99, 2), 2);
+        // A DEPTH of 1 is shown, of one STROKE more it would be gone.
+        FaceCoins y = Desk.under("who a;who b;mint m 1 8;mint n 1 9;");
+        y.coin(0, 100, 0);
+        Desk.due("at m", Desk.sale(y, 0, 1, 0, 1, 0), 0);
+        Desk.due("DEPTH", y.face(0, 1, 1), 1);
+        Desk.due("rows", y.rows(0, 100, 2), 2);
+        Desk.due("the first at m or n", y.could(0, 1), 3);
+        Desk.due("the second at m", y.could(1, 1), 1);
+        Desk.due("rows of three", y.rows(0, 101, 3), 2 * 2 * 2);
+        Desk.due("the first is anybody's", y.could(0, 0), 3);
+        Desk.due("the second a's", y.could(1, 0), 1);
+        Desk.due("at m or n", y.could(1, 1), 3);
     }
 
     private static void couldOnes() {
@@ -347,6 +361,53 @@ public final class EdgesOfRowsAndMarketsTest {
         Desk.yes("some", x.sales() > 0);
         Desk.due("paid(0)", x.paid(0), 1);
         Desk.due("paid(1)", x.paid(1), -1);
+    }
+
+    private static void facesComeBack() {
+        Desk.edge("The latest ACT .. is undone (FACES that it made thinner or struck away)");
+        FaceCoins x = Desk.under("who a;who b;mint m 1 4;mint n 1 9;mint o 1 2;");
+        x.coin(0, 100, 0);
+        Desk.due("at m", Desk.sale(x, 0, 1, 0, 1, 0), 0);
+        Desk.due("DEPTH", x.face(0, 1, 1), 5);
+        Desk.due("at o", Desk.sale(x, 1, 0, 2, 1, 0), 0);
+        Desk.due("DEPTH of the third", x.face(0, 2, 1), 3);
+        x.undo();
+        Desk.due("DEPTH again", x.face(0, 1, 1), 5);
+        Desk.due("at n", Desk.sale(x, 1, 0, 1, 1, 0), 0);
+        Desk.due("one FACE", x.of(0, 2), 1);
+        x.undo();
+        Desk.due("two FACES", x.of(0, 2), 2);
+        Desk.due("DEPTH again", x.face(0, 1, 1), 5);
+        Desk.due("shown again", x.stroke(0, 6), 1);
+        x.undo();
+        Desk.due("one FACE", x.of(0, 2), 1);
+        Desk.due("DEPTH 9", x.face(0, 0, 1), 9);
+        Desk.due("a's", x.face(0, 0, 0), 0);
+        Desk.due("GRAINS", x.of(0, 0), 99);
+    }
+
+    private static void undoneCoins() {
+        Desk.edge("The latest ACT .. is undone (a COIN made)");
+        FaceCoins x = Desk.under("who a begs;who b;mint m 1 4;lucky 9;");
+        x.coin(1, 100, 0);
+        x.coin(0, 200, 0);
+        x.rob(1, 1);
+        Desk.text(x, "not false");
+        x.sentence();
+        x.undo();
+        x.undo();
+        int[][] told = {{0, 0, 0}, {1, 99, 1}};
+        for (int w = 0; w < 2; w++) for (int i = 0; i < 3; i++) Desk.due("who(" + w + ", " + (3 + i) + ")", x.who(w, 3 + i), told[w][i]);
+        Desk.due("LUCK", x.luck(), 9);
+        Desk.due("made", x.silver(0), 100);
+        Desk.due("now", x.silver(1), 99);
+        Desk.due("foreign", x.foreign(-1), 0);
+        Desk.due("said", x.said(-1), 1);
+        Desk.due("STROKES at m", x.mint(0, 3), 1);
+        Desk.due("a PAYMENT of it", x.payment(1, 0, 0, 100), -1);
+        Desk.due("a SALE of it", Desk.sale(x, 1, 0, 0, 1, 1), -1);
+        Desk.no("a robber of it", x.rob(0, 1));
+        Desk.due("a death", x.dies(1, 0), 1);
     }
 
     private static void undoNone() {

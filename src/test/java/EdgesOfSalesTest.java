@@ -36,6 +36,7 @@ public final class EdgesOfSalesTest {
         paidOnes();
         paidOfTheLatest();
         buying();
+        buyingOfFewer();
         buyIsRefused();
         Desk.close();
     }
@@ -305,6 +306,11 @@ public final class EdgesOfSalesTest {
         Desk.due("221", x.payment(0, 1, 0, 221), -1);
         Desk.due("buy of 220", x.buy(0, 1, 0, 220), 220);
         Desk.due("VALUES", x.sold(0, 6), 220);
+        x.undo();
+        Desk.due("buy of 119", x.buy(0, 1, 0, 119), 120);
+        Desk.due("PRICE", x.sold(0, 3), 119);
+        Desk.due("COINS", x.sold(0, 5), 1);
+        Desk.due("VALUES above it", x.sold(0, 6), 120);
     }
 
     private static void firstTwelve() {
@@ -413,6 +419,13 @@ public final class EdgesOfSalesTest {
         Desk.due("61", x.payment(0, 1, 0, 61), 55);
         Desk.due("111", x.payment(0, 1, 0, 111), 58 + 30);
         Desk.due("169", x.payment(0, 1, 0, 169), 125 + 30);
+        // Two of less GRAINS, ahead of one and behind it.
+        for (int[] made : new int[][] {{101, 31, 32}, {31, 32, 101}, {31, 101, 32}}) {
+            FaceCoins y = Desk.under("who a;who b;mint m 1 1;thin 1;");
+            for (int grains : made) y.coin(0, grains, 0);
+            Desk.due("two of 61", y.payment(0, 1, 0, 60), 61);
+            for (int c = 0; c < 3; c++) Desk.due("paid(" + c + ")", y.paid(c), made[c] < 100 ? 1 : 0);
+        }
     }
 
     private static void grainsAhead() {
@@ -440,6 +453,15 @@ public final class EdgesOfSalesTest {
         Desk.due("90: 40 and 50, not 20, 30 and 40", x.payment(0, 1, 0, 85), 90);
         int[] two = {0, 0, 1, 1, -1};
         for (int c = 0; c < 5; c++) Desk.due("paid(" + c + ")", x.paid(c), two[c]);
+        // The fewest come first here.
+        FaceCoins y = Desk.under("who a;who b;mint m 1 1;thin 1;");
+        for (int i = made.length - 1; i >= 0; i--) y.coin(0, made[i], 0);
+        Desk.due("90: one", y.payment(0, 1, 0, 85), 90);
+        for (int c = 0; c < 5; c++) Desk.due("paid(" + c + ")", y.paid(c), c == 0 ? 1 : 0);
+        y.rob(1, 0);
+        Desk.due("90: 50 and 40", y.payment(0, 1, 0, 85), 90);
+        int[] turned = {-1, 1, 1, 0, 0};
+        for (int c = 0; c < 5; c++) Desk.due("paid(" + c + ")", y.paid(c), turned[c]);
     }
 
     private static void firstOnes() {
@@ -462,6 +484,40 @@ public final class EdgesOfSalesTest {
         ways(x, 398, 0, 4, 4);
         ways(x, 399, 1, 1, 4);
         ways(x, 597, 4, 4, 4);
+        // Of COINS that weigh the same the later ones are given, of sums that are the same the later COINS.
+        FaceCoins y = Desk.under("who a;who b;mint m 1 1;thin 1;");
+        int[] made = {51, 11, 41, 31, 21, 11};
+        for (int grains : made) y.coin(0, grains, 0);
+        lastGiven(y, 60, 0, 0, 1, 0, 1, 0);
+        lastGiven(y, 50, 1, 0, 0, 0, 0, 0);
+        lastGiven(y, 40, 0, 0, 1, 0, 0, 0);
+        lastGiven(y, 10, 0, 0, 0, 0, 0, 1);
+        lastGiven(y, 70, 0, 0, 1, 1, 0, 0);
+        lastGiven(y, 110, 1, 0, 1, 0, 1, 0);
+        lastGiven(y, 150, 1, 0, 1, 1, 1, 1);
+        lastGiven(y, 160, 1, 1, 1, 1, 1, 1);
+        onlyStruck();
+    }
+
+    /** COIN 0 is worth 60, struck 99; COIN 1 is worth 70 and bears one STROKE more: 159 are not made by 60. */
+    private static void onlyStruck() {
+        FaceCoins x = Desk.under("who a;who b;who c;who d;mint m 1 1;takes b c 60;takes b d 70;faces 3;");
+        x.coin(2, 101, 0);
+        x.coin(2, 102, 0);
+        Desk.due("to d", Desk.sale(x, 2, 3, 0, 1, 1), 0);
+        x.rob(0, 0);
+        x.rob(0, 1);
+        Desk.due("159", x.payment(0, 1, 0, 159), 200);
+        Desk.due("struck", x.paid(0), 2);
+        Desk.due("given", x.paid(1), 1);
+        Desk.due("130", x.payment(0, 1, 0, 130), 200);
+        Desk.due("given", x.paid(0), 1);
+        Desk.due("170 is too much", x.payment(0, 1, 0, 170), -1);
+    }
+
+    private static void lastGiven(FaceCoins x, int price, int... told) {
+        Desk.due("payment of " + price, x.payment(0, 1, 0, price), price);
+        for (int c = 0; c < told.length; c++) Desk.due(price + ": paid(" + c + ")", x.paid(c), told[c]);
     }
 
     private static void ways(FaceCoins x, int price, int... told) {
@@ -557,6 +613,35 @@ public final class EdgesOfSalesTest {
         Desk.due("one ACT", x.undo(), 5);
         Desk.due("STROKES", x.strokes(), 3);
         Desk.due("SALES", x.sales(), 0);
+    }
+
+    private static void buyingOfFewer() {
+        Desk.edge("a PAYMENT done (of the COINS of this buyer alone)");
+        // a's second and third COINS are struck in his PAYMENT; b has one.
+        FaceCoins x = Desk.under("who a;who b;who c owes;mint m 1 1;");
+        for (int c = 0; c < 4; c++) x.coin(c == 0 ? 0 : 2, 101, 0);
+        for (int c = 1; c < 3; c++) x.rob(0, c);
+        x.rob(1, 3);
+        Desk.due("payment of a's", x.payment(0, 1, 0, 298), 300);
+        Desk.due("struck", x.paid(2), 2);
+        Desk.due("buy of b's", x.buy(1, 0, 0, 99), 100);
+        Desk.due("STROKES", x.strokes(), 6);
+        Desk.due("COINS", x.sold(0, 5), 1);
+        for (int c = 0; c < 3; c++) {
+            Desk.due("owner", x.of(c, 1), 0);
+            Desk.due("STROKES that it had", x.of(c, 3), 1);
+        }
+        // Of b's first twelve he gives one; a has but two, and one of them is worth nothing.
+        FaceCoins y = Desk.under("who a;who b;who c owes;mint m 1 1;faces 2;");
+        for (int c = 0; c < 12; c++) y.coin(1, 101, 0);
+        y.coin(2, 101, 0);
+        y.coin(0, 101, 0);
+        y.rob(0, 12);
+        Desk.due("all of b's", y.payment(1, 0, 0, 1200), 1200);
+        Desk.due("one of a's", y.payment(0, 1, 0, 100), 100);
+        Desk.due("left, as it can't be struck twice", y.paid(12), 0);
+        Desk.due("given", y.paid(13), 1);
+        Desk.due("not of b's", y.paid(0), -1);
     }
 
     private static void buyIsRefused() {

@@ -17,6 +17,7 @@ public final class EdgesOfSentencesAndImagesTest {
         howManyOnes();
         notBindsOne();
         andAheadOfOr();
+        ofTwenty();
         signs();
         bearsShowsHeld();
         falseOnes();
@@ -222,6 +223,8 @@ public final class EdgesOfSentencesAndImagesTest {
         said(x, "not held bob and bears cy", 2);
         said(x, "not (held bob and bears cy)", 0, 1, 2);
         said(x, "not not not held bob", 0, 2);
+        said(x, "held bob or not (held bob or bears cy)", 0, 1);
+        said(x, "held ann and not (bears cy and held ann)", 0);
     }
 
     private static void andAheadOfOr() {
@@ -235,6 +238,23 @@ public final class EdgesOfSentencesAndImagesTest {
         said(x, "bears ann or bears bob or bears cy", 0, 1, 2);
         said(x, "shows ann and shows bob and held bob", 1);
         said(x, "shows ann and shows bob and held ann");
+        said(x, "held ann and (bears ann or bears bob)", 0);
+        said(x, "held ann and (bears cy and struck=1)", 2);
+        said(x, "held ann and (bears ann and struck=2 or bears cy and struck=1)", 2);
+        said(x, "held bob or (held ann and (bears cy or (false and bears ann)))", 1, 2);
+        said(x, "held bob and (false or (held bob and (false or (held bob and shows ann))))", 1);
+    }
+
+    private static void ofTwenty() {
+        Desk.edge("20 ONES (said of COINS by all of them)");
+        FaceCoins x = three();
+        for (int i = 0; i < 3; i++) {
+            said(x, "false" + " or false".repeat(18) + " or held bob", 1);
+            said(x, "held ann" + " or false".repeat(19), 0, 2);
+            said(x, "held bob" + " and layers>0".repeat(12) + " and layers>2");
+            said(x, "held bob" + " and layers>0".repeat(13), 1);
+            said(x, "false or not(" + "false or ".repeat(16) + "held bob)", 0, 2);
+        }
     }
 
     private static void signs() {
@@ -348,9 +368,14 @@ public final class EdgesOfSentencesAndImagesTest {
         String before = Sight.of(x);
         Desk.text(x, "who z begs owes;mint y 9 9;lucky 7;dead 7;thin 7;faces 7;takes z z 7;");
         Desk.due("another LAW", x.law(), 7);
-        x.coin(0, 500, 0);
+        x.day();
+        for (int c = 0; c < 4; c++) x.coin(0, 500 + c, 0);
+        Desk.text(x, "who y;who z;mint u 9 9;mint v 9 9;");
+        Desk.due("and another one", x.law(), 4);
         x.day();
         x.day();
+        for (int c = 0; c < 2; c++) x.coin(1, 500 + c, 1);
+        Desk.due("sale", Desk.sale(x, 1, 0, 1, 77, 1, 0), 0);
         ones(x, "not held z", 2);
         Desk.yes("restore", x.restore(0));
         Desk.yes("all is as it was", Sight.of(x).equals(before));

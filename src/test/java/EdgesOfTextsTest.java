@@ -335,6 +335,17 @@ public final class EdgesOfTextsTest {
         Desk.lawFault("who a owes owes;", 11, 1);
         Desk.lawFault("who a begs owes owes;", 16, 1);
         Desk.lawFault("who begs;", 4, 1);
+        Desk.lawFault("who ;", 4, 1);
+        Desk.lawFault("who a b;", 6, 1);
+        Desk.lawFault("who a 1;", 6, 1);
+        Desk.lawFault("who a who b;", 6, 1);
+        Desk.lawFault("mint m 1 1 n;", 11, 1);
+        Desk.lawFault("mint m ; 1;", 7, 1);
+        Desk.lawFault("lucky 1 1;", 8, 1);
+        Desk.lawFault("a;", 0, 1);
+        Desk.lawFault("begs;", 0, 1);
+        Desk.lawFault("or 1;", 0, 1);
+        Desk.lawFault("1;", 0, 1);
     }
 
     private static void faultAtTheEnd() {
@@ -348,6 +359,17 @@ public final class EdgesOfTextsTest {
         Desk.lawFault(";", 0, 1);
         Desk.lawFault("who a;;", 6, 1);
         Desk.lawFault(" ".repeat(697) + "who", 700, 1);
+        // What end() has cut is not there, though it would go on.
+        FaceCoins x = new FaceCoins();
+        Desk.text(x, "who a   ;");
+        x.end(5);
+        Desk.due("cut ahead of blanks", x.law(), -1 - 5);
+        Desk.text(x, "who abc;");
+        x.end(5);
+        Desk.due("cut within a NAME", x.law(), -1 - 5);
+        Desk.text(x, "who a;who a;");
+        x.end(6);
+        Desk.due("cut behind a LINE", x.law(), 1);
     }
 
     private static void sevenHundred() {
@@ -496,6 +518,7 @@ public final class EdgesOfTextsTest {
         Desk.edge("A new LAW: no COINS, STROKES, SENTENCE, DAY 0, nobody DEAD, all MINTS open.");
         FaceCoins x = Desk.under("who a;who b;who c;mint m 2 3;mint n 1 1;");
         x.coin(0, 100, 0);
+        x.coin(1, 100, 0);
         Desk.due("sale", Desk.sale(x, 0, 1, 0, 5, 0), 0);
         x.day();
         x.steal(0, 1);
@@ -503,8 +526,8 @@ public final class EdgesOfTextsTest {
         x.close(1);
         Desk.text(x, "not false");
         x.sentence();
-        Desk.text(x, "who a;who b;who c;mint m 2 3;mint n 1 1;");
-        Desk.due("law", x.law(), 5);
+        Desk.text(x, "who a;who b;who c;mint m 2 3;mint n 1 1;takes a b 5;takes b a 5;");
+        Desk.due("law", x.law(), 7);
         Desk.due("COINS", x.count(7), 0);
         Desk.none("of COIN 0", () -> x.of(0, 0));
         Desk.due("STROKES", x.strokes(), 0);
@@ -520,5 +543,18 @@ public final class EdgesOfTextsTest {
         Desk.due("nobody has it", x.count(10), -1);
         for (int i = 0; i < 3; i++) Desk.due("silver", x.silver(i), 0);
         Desk.due("nothing is undone", x.undo(), -1);
+        Desk.due("COIN 0 anew", x.coin(1, 60, 0), 0);
+        int[] told = {58, 1, 1, 1, 0};
+        for (int what = 0; what < 5; what++) Desk.due("of(0, " + what + ")", x.of(0, what), told[what]);
+        Desk.due("taken as this LAW tells", x.value(0, 0, 0), 5);
+        Desk.due("COINS that he has", x.who(1, 3), 1);
+        Desk.due("GRAINS of these", x.who(1, 4), 58);
+        Desk.due("with his FACE on top", x.who(1, 5), 1);
+        Desk.due("GRAINS of all", x.silver(1), 58);
+        Desk.text(x, "who a;who b;takes b a 7;");
+        Desk.due("law", x.law(), 3);
+        Desk.due("'takes' of it alone", x.count(2), 1);
+        Desk.due("MINTS of it alone", x.count(1), 0);
+        Desk.none("MINT 0", () -> x.mint(0, 0));
     }
 }
